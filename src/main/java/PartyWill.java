@@ -395,16 +395,11 @@ public final class PartyWill {
         if (party.size == 0) {
             return STATE;
         }
-        if (Programmes.staying(party, course.now, n) == 0) {
+        int code = Programmes.firstLeaving(party, course.now, n, Hall.howManyIn(course.now), 0);
+        if (code == NONE) {
             return NONE;
         }
-        makeRow(r, n);
-        long hall = course.now;
-        for (int p = 0; p < n; p++) {
-            int tune = Programmes.firstThatStays(party, hall, n - 1 - p);
-            rows[r][p] = tune;
-            hall = party.afterTune(hall, tune);
-        }
+        makeProgramme(r, n, code);
         return n;
     }
 
@@ -416,13 +411,7 @@ public final class PartyWill {
             return STATE;
         }
         int most = Programmes.mostLeft(party, course.now, n);
-        makeRow(r, n);
-        long hall = course.now;
-        for (int p = 0; p < n; p++) {
-            int tune = Programmes.firstThatLeaves(party, hall, n - 1 - p, most);
-            rows[r][p] = tune;
-            hall = party.afterTune(hall, tune);
-        }
+        makeProgramme(r, n, Programmes.firstLeaving(party, course.now, n, most, 0));
         return Hall.howManyIn(course.now) - most;
     }
 
@@ -707,6 +696,13 @@ public final class PartyWill {
             rows[r][i] = 0;
         }
         rowSizes[r] = n;
+    }
+
+    private void makeProgramme(int r, int n, int code) {
+        makeRow(r, n);
+        for (int p = 0; p < n; p++) {
+            rows[r][p] = code >> (2 * (n - 1 - p)) & (TUNES - 1);
+        }
     }
 
     private int rowPlaceFinding(int r, int i) {
@@ -1228,13 +1224,22 @@ public final class PartyWill {
             return Hall.insiders(then) == Hall.insiders(hall) ? staying(party, then, left) : 0;
         }
 
-        private static int firstThatStays(Party party, long hall, int left) {
-            for (int t = 0; t < TUNES - 1; t++) {
-                if (stayingBehind(party, hall, t, left) > 0) {
-                    return t;
-                }
+        /**
+         * The first programme that leaves so many in at least, or NONE: a number with two bits a tune, behind those
+         * of code, the tunes played so far.
+         */
+        private static int firstLeaving(Party party, long hall, int left, int wanted, int code) {
+            if (Hall.howManyIn(hall) < wanted) {
+                return NONE;
             }
-            return TUNES - 1;
+            if (left <= 0) {
+                return code;
+            }
+            int first = NONE;
+            for (int t = 0; t < TUNES && first == NONE; t++) {
+                first = firstLeaving(party, party.afterTune(hall, t), left - 1, wanted, TUNES * code + t);
+            }
+            return first;
         }
 
         private static int mostLeft(Party party, long hall, int left) {
@@ -1246,15 +1251,6 @@ public final class PartyWill {
                 most = Math.max(most, mostLeft(party, party.afterTune(hall, t), left - 1));
             }
             return most;
-        }
-
-        private static int firstThatLeaves(Party party, long hall, int left, int wanted) {
-            for (int t = 0; t < TUNES - 1; t++) {
-                if (mostLeft(party, party.afterTune(hall, t), left) == wanted) {
-                    return t;
-                }
-            }
-            return TUNES - 1;
         }
 
         private static long leftByAll(Party party, long hall, int left) {

@@ -210,5 +210,28 @@ public final class DeedsTest {
         Checks.griefs(x, "as kept again", 3, 1);
         Checks.found(x, "on(0)", x.on(0), 1);
         Checks.due("kept still", x.count(9), 1);
+        deedsKept();
+    }
+
+    private static void deedsKept() {
+        PartyWill x = Checks.party("c94544 g2");
+        x.tune(1);
+        x.tune(1);
+        x.keep(0);
+        x.undo(0);
+        x.ice(0);
+        x.say(0);
+        x.say(0);
+        Checks.due("on(0)", x.on(0), 2);
+        Checks.griefs(x, "as kept", 4);
+        Checks.due("undo(1) of what was kept", x.undo(1), 1);
+        Checks.griefs(x, "behind the first deed that was kept", 3);
+        Checks.due("undo(0) of what was kept", x.undo(0), 1);
+        Checks.griefs(x, "ahead of what was kept", 2);
+        x.say(0);
+        x.say(0);
+        Checks.due("on(0) again", x.on(0), 2);
+        Checks.due("undo(1) again", x.undo(1), 1);
+        Checks.griefs(x, "what is kept stays as it was", 3);
     }
 }

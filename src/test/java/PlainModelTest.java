@@ -20,6 +20,9 @@ public final class PlainModelTest {
                 if (draw(6) == 0) {
                     pairs(x, y);
                 }
+                if (draw(8) == 0) {
+                    goBack(x, y);
+                }
                 String call = "run " + run + ", call " + k + ", party " + party + ": ";
                 if (!once(call, x, y)) {
                     break;
@@ -105,6 +108,19 @@ public final class PlainModelTest {
         int guest = draw(6);
         Checks.due("kinds", x.kinds(guest, r), y.kinds(guest, r));
         Checks.due("came", x.came(guest, r), y.came(guest, r));
+    }
+
+    /** Keeping, going on and undoing near one another, so that what was kept is gone back through. */
+    private static void goBack(PartyWill x, PlainWill y) {
+        int k = draw(3);
+        int n = draw(4);
+        switch (draw(3)) {
+            case 0: Checks.due("keep", x.keep(k), y.keep(k)); break;
+            case 1: Checks.due("on", x.on(k), y.on(k)); break;
+            default: break;
+        }
+        Checks.due("undo", x.undo(n), y.undo(n));
+        Checks.due("digest() behind undo()", x.digest(), y.digest());
     }
 
     private static boolean once(String where, PartyWill x, PlainWill y) {

@@ -45,6 +45,8 @@ public final class WillTest {
         Checks.due("stops() of a pair", Checks.party("c34444 g1g1").stops(), 3);
         Checks.due("stops() at the CLAUSE", Checks.party("c34444 g1g2").stops(), PartyWill.NONE);
         Checks.due("stops() of three", Checks.party("c54444 g2g3g4").stops(), 7);
+        Checks.due("stops() of five", Checks.party("c94444 g7g7g7g7g7g9").stops(), 31);
+        Checks.due("stops() of six", Checks.party("c94444 g8g8g7g7g7g7").stops(), 63);
         Checks.due("the least pair", Checks.party("c54444 g4g2g2g1").stops(), 6);
         Checks.due("a pair ahead of a lesser three", Checks.party("c54444 g4g4g1g1").stops(), 12);
         PartyWill x = Checks.party("c54444 g0g6g0g0 x01");
