@@ -246,28 +246,18 @@ public final class PartyWill {
     }
 
     public int say(int i) {
-        if (!isGuest(i)) {
-            return BAD;
-        }
-        if (!Hall.isIn(course.now, i)) {
-            return STATE;
-        }
-        if (course.deeds >= DEEDS_MOST) {
-            return FULL;
+        int refused = deedRefusal(i);
+        if (refused != FINE) {
+            return refused;
         }
         course.goOn(party.afterName(course.now, i));
         return Hall.griefOf(course.now, i);
     }
 
     public int ice(int i) {
-        if (!isGuest(i)) {
-            return BAD;
-        }
-        if (!Hall.isIn(course.now, i)) {
-            return STATE;
-        }
-        if (course.deeds >= DEEDS_MOST) {
-            return FULL;
+        int refused = deedRefusal(i);
+        if (refused != FINE) {
+            return refused;
         }
         course.goOn(party.afterIce(course.now, i));
         return Hall.griefOf(course.now, i);
@@ -367,11 +357,9 @@ public final class PartyWill {
     // ---- 4 programmes
 
     public int stay(int n) {
-        if (!isProgrammeSize(n)) {
-            return BAD;
-        }
-        if (party.size == 0) {
-            return STATE;
+        int refused = searchRefusal(n);
+        if (refused != FINE) {
+            return refused;
         }
         long ways = n == 0 ? 1 : 0;
         int openings = 0;
@@ -389,11 +377,9 @@ public final class PartyWill {
     }
 
     public int first(int n, int r) {
-        if (!isProgrammeSize(n) || !isRow(r)) {
-            return BAD;
-        }
-        if (party.size == 0) {
-            return STATE;
+        int refused = isRow(r) ? searchRefusal(n) : BAD;
+        if (refused != FINE) {
+            return refused;
         }
         int code = Programmes.firstLeaving(party, course.now, n, Hall.howManyIn(course.now), 0);
         if (code == NONE) {
@@ -404,11 +390,9 @@ public final class PartyWill {
     }
 
     public int fewest(int n, int r) {
-        if (!isProgrammeSize(n) || !isRow(r)) {
-            return BAD;
-        }
-        if (party.size == 0) {
-            return STATE;
+        int refused = isRow(r) ? searchRefusal(n) : BAD;
+        if (refused != FINE) {
+            return refused;
         }
         int most = Programmes.mostLeft(party, course.now, n);
         makeProgramme(r, n, Programmes.firstLeaving(party, course.now, n, most, 0));
@@ -548,22 +532,18 @@ public final class PartyWill {
     // ---- 7 chances, lots
 
     public int odds(int n) {
-        if (!isProgrammeSize(n)) {
-            return BAD;
-        }
-        if (party.size == 0) {
-            return STATE;
+        int refused = searchRefusal(n);
+        if (refused != FINE) {
+            return refused;
         }
         tellShare(Programmes.staying(party, course.now, n), n);
         return 1;
     }
 
     public int mid(int n) {
-        if (!isProgrammeSize(n)) {
-            return BAD;
-        }
-        if (party.size == 0) {
-            return STATE;
+        int refused = searchRefusal(n);
+        if (refused != FINE) {
+            return refused;
         }
         long inAtFirst = (long) Hall.howManyIn(course.now) << (2 * n);
         tellShare(inAtFirst - Programmes.leftByAll(party, course.now, n), n);
@@ -679,10 +659,6 @@ public final class PartyWill {
         return grief >= 0 && grief <= GRIEF_MOST;
     }
 
-    private static boolean isProgrammeSize(int n) {
-        return n >= 0 && n <= PROGRAMME_MOST;
-    }
-
     private boolean isGuest(int i) {
         return i >= 0 && i < party.size;
     }
@@ -741,6 +717,24 @@ public final class PartyWill {
             }
         }
         return FINE;
+    }
+
+    private int searchRefusal(int n) {
+        if (n < 0 || n > PROGRAMME_MOST) {
+            return BAD;
+        }
+        return party.size == 0 ? STATE : FINE;
+    }
+
+    /** What is done with one guest: a full party is told behind one that is out. */
+    private int deedRefusal(int i) {
+        if (!isGuest(i)) {
+            return BAD;
+        }
+        if (!Hall.isIn(course.now, i)) {
+            return STATE;
+        }
+        return course.deeds >= DEEDS_MOST ? FULL : FINE;
     }
 
     private int eveningRefusal(int i, int r) {
