@@ -1,16 +1,27 @@
+import java.util.function.IntSupplier;
+
 /** What the tests share: counting wrong answers, and making texts and rows. */
 final class Checks {
+    static final int MOST = Integer.MAX_VALUE, LEAST = Integer.MIN_VALUE;
+    static final int NOTHING = 1, BEYOND = 2, UNLIKE = 3, NOUGHT = 4, SIZE = 5;
+
     private static int wrong = 0;
     private static int asked = 0;
+    private static String test = "";
 
     private Checks() {
+    }
+
+    /** What is checked from here on is of this test. */
+    static void test(String name) {
+        test = name + ": ";
     }
 
     static void due(String call, long got, long want) {
         asked++;
         if (got != want) {
             wrong++;
-            System.out.println(call + " answered " + got + ", due is " + want);
+            System.out.println(test + call + " answered " + got + ", due is " + want);
         }
     }
 
@@ -31,6 +42,31 @@ final class Checks {
     static void found(PartyWill x, String call, long got, int finding) {
         due(call, got, PartyWill.FINDING);
         due(call + ", finding()", x.finding(), finding);
+    }
+
+    /** A call that is refused, and changes nothing, not even finding(). */
+    static void refused(PartyWill x, String call, IntSupplier asking, int want) {
+        int finding = x.finding();
+        unchanging(x, call, asking, want);
+        due(call + ", finding()", x.finding(), finding);
+    }
+
+    /** A call that is refused with a finding, and changes nothing but that. */
+    static void finds(PartyWill x, String call, IntSupplier asking, int finding) {
+        int before = x.findings(finding);
+        unchanging(x, call, asking, PartyWill.FINDING);
+        due(call + ", finding()", x.finding(), finding);
+        due(call + ", findings(" + finding + ")", x.findings(finding), before + 1);
+    }
+
+    /** A call that answers so, and leaves all as it was. */
+    static void unchanging(PartyWill x, String call, IntSupplier asking, int want) {
+        long[] before = {x.digest(), x.asked(), x.upper(), x.lower()};
+        due(call, asking.getAsInt(), want);
+        long[] behind = {x.digest(), x.asked(), x.upper(), x.lower()};
+        for (int k = 0; k < before.length; k++) {
+            due(call + " leaves state " + k, behind[k], before[k]);
+        }
     }
 
     static void griefs(PartyWill x, String when, int... griefs) {
@@ -65,9 +101,41 @@ final class Checks {
         text(x, 0, signs);
         if (x.party(0) < 0) {
             wrong++;
-            System.out.println("party by " + signs + " is refused");
+            System.out.println(test + "party by " + signs + " is refused");
         }
         return x;
+    }
+
+    /** Six guests and as many sights as 80 signs hold, two blanks behind. */
+    static String longest() {
+        StringBuilder signs = new StringBuilder("c54444g0g1g2g3g4g5");
+        for (int sight = 0; sight < 20; sight++) {
+            int seer = sight / 5;
+            int seen = sight % 5;
+            signs.append('x').append(seer).append(seen < seer ? seen : seen + 1);
+        }
+        return signs.append("  ").toString();
+    }
+
+    /** Tune 0, until there are so many deeds. */
+    static void deeds(PartyWill x, int n) {
+        for (int k = x.count(2); k < n; k++) {
+            x.tune(0);
+        }
+    }
+
+    static int[] times(int n, int v) {
+        int[] all = new int[n];
+        java.util.Arrays.fill(all, v);
+        return all;
+    }
+
+    static long digestOf(int... all) {
+        long h = 17;
+        for (int v : all) {
+            h = 31 * h + v;
+        }
+        return h;
     }
 
     static void end() {
