@@ -1,9 +1,11 @@
 /** Runs of calls drawn by lots, each answered by PartyWill as by the plain model. */
 public final class PlainModelTest {
-    private static final int RUNS = 500, CALLS = 150;
+    /** What an object answers behind its 512th call is free, so a run ends while another round fits. */
+    private static final int RUNS = 1600, CALLS_MOST = 512, ROUND_MOST = 120;
     private static final int[] FAR = {-1, 6, 7, 21, 41, 81, 1000, Integer.MAX_VALUE, Integer.MIN_VALUE};
 
     private static long lot = 1;
+    private static int calls = 0;
 
     public static void main(String[] args) {
         for (int run = 0; run < RUNS; run++) {
@@ -11,7 +13,8 @@ public final class PlainModelTest {
             PartyWill x = new PartyWill();
             PlainWill y = new PlainWill();
             StringBuilder party = new StringBuilder();
-            for (int k = 0; k < CALLS; k++) {
+            calls = 0;
+            for (int k = 0; calls + ROUND_MOST <= CALLS_MOST; k++) {
                 if (k == 3 || draw(60) == 0) {
                     party.setLength(0);
                     party.append(party());
@@ -77,6 +80,7 @@ public final class PlainModelTest {
     }
 
     private static void write(PartyWill x, PlainWill y, int t, String signs) {
+        calls += signs.length() + 3;
         Checks.due("text", x.text(t, signs.length()), y.text(t, signs.length()));
         for (int i = 0; i < signs.length(); i++) {
             Checks.due("put", x.put(t, i, signs.charAt(i)), y.put(t, i, signs.charAt(i)));
@@ -89,6 +93,7 @@ public final class PlainModelTest {
     private static void pairs(PartyWill x, PlainWill y) {
         int r = draw(6);
         int n = draw(4);
+        calls += 4 * n + 8;
         x.row(r, 2 * n);
         y.row(r, 2 * n);
         x.guest(draw(6), 1);
@@ -114,6 +119,7 @@ public final class PlainModelTest {
     private static void goBack(PartyWill x, PlainWill y) {
         int k = draw(3);
         int n = draw(4);
+        calls += 3;
         switch (draw(3)) {
             case 0: Checks.due("keep", x.keep(k), y.keep(k)); break;
             case 1: Checks.due("on", x.on(k), y.on(k)); break;
@@ -124,6 +130,7 @@ public final class PlainModelTest {
     }
 
     private static boolean once(String where, PartyWill x, PlainWill y) {
+        calls += 6;
         int a = number(5);
         int b = number(6);
         int c = number(6);
@@ -136,8 +143,10 @@ public final class PlainModelTest {
         Checks.due(call + ", upper()", x.upper(), y.upper());
         Checks.due(call + ", lower()", x.lower(), y.lower());
         Checks.due(call + ", finding()", x.finding(), y.finding());
-        Checks.due(call + ", digest()", x.digest(), y.digest());
-        return got == want && x.digest() == y.digest();
+        long digest = x.digest();
+        long wantDigest = y.digest();
+        Checks.due(call + ", digest()", digest, wantDigest);
+        return got == want && digest == wantDigest;
     }
 
     private static int answerOf(PartyWill x, int which, int a, int b, int c) {

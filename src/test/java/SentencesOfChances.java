@@ -100,8 +100,8 @@ final class SentencesOfChances {
         Checks.due("DEEDS", x.count(2), n);
     }
 
-    @Sentence(of = 39, says = "n (1 .. 20) TUNES truly by LOTS of a seed (each number by 16, cut, modulo 4): how many are "
-        + "OUT by them.")
+    @Sentence(of = 39, says = "n (1 .. 20) TUNES truly by LOTS of a seed (each number by 16, cut, modulo 4): how many "
+        + "are OUT by them.")
     static void promise39_tunesByLots_howManyAreOut() {
         int[] seeds = {1, 2, 48271, 1000000007, LAST_SEED - 1, LAST_SEED};
         for (int seed : seeds) {

@@ -148,8 +148,8 @@ final class SentencesOfDeeds {
         Checks.refused(x, "ice(1), full", () -> x.ice(1), PartyWill.FULL);
     }
 
-    @Sentence(of = 18, says = "DEEDS from number n on (0 to how many there are: none then) are undone "
-        + "(what TUNES do stays): how many.")
+    @Sentence(of = 18, says = "DEEDS from number n on (0 to how many there are: none then) are undone (what TUNES do "
+        + "stays): how many.")
     static void promise18_deedsAreUndone_howMany() {
         PartyWill none = new PartyWill();
         Checks.due("undo(0) without GUESTS", none.undo(0), 0);
@@ -194,7 +194,8 @@ final class SentencesOfDeeds {
         Checks.refused(x, "undo(41) of 40", () -> x.undo(41), PartyWill.BAD);
     }
 
-    @Sentence(of = 19, says = "The PARTY (GUESTS, DEEDS; not what TUNES do) is kept in a place (0 .. 2): how many DEEDS.")
+    @Sentence(of = 19, says = "The PARTY (GUESTS, DEEDS; not what TUNES do) is kept in a place (0 .. 2): how many "
+        + "DEEDS.")
     static void promise19_partyIsKept_howManyDeeds() {
         PartyWill x = Checks.party("c35344 g3g0 x10");
         Checks.due("keep(0) without DEEDS", x.keep(0), 0);
@@ -252,6 +253,26 @@ final class SentencesOfDeeds {
         Checks.due("undo(0)", x.undo(0), 1);
         Checks.told(x, "guest(0, 2), in", x.guest(0, 2), 0);
         Checks.due("kept still", x.count(9), 3);
+        deedsAreAsTheyWereKept();
+    }
+
+    private static void deedsAreAsTheyWereKept() {
+        PartyWill x = Checks.party("c94544 g2");
+        x.tune(1);
+        x.tune(1);
+        x.keep(0);
+        x.undo(0);
+        x.ice(0);
+        x.say(0);
+        x.say(0);
+        Checks.due("on(0), other DEEDS were done", x.on(0), 2);
+        Checks.griefs(x, "behind two polkas", 4);
+        Checks.due("undo(1)", x.undo(1), 1);
+        Checks.griefs(x, "behind the first polka", 3);
+        x.say(0);
+        Checks.due("on(0) again, one DEED was undone", x.on(0), 2);
+        Checks.due("undo(0)", x.undo(0), 2);
+        Checks.griefs(x, "as it came", 2);
     }
 
     @Sentence(of = 20, says = "BAD; NOTHING.")

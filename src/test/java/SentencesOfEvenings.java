@@ -18,8 +18,8 @@ final class SentencesOfEvenings {
         Checks.due("came(" + i + ", 0) by " + java.util.Arrays.toString(evening), x.came(i, 0), want);
     }
 
-    @Sentence(of = 31, says = "Of which KINDS (bits) a GUEST can be by an evening: a ROW of pairs (0 to 8: a TUNE, its "
-        + "GRIEF behind it), one behind the other, from its GRIEF now on, nobody OUT.")
+    @Sentence(of = 31, says = "Of which KINDS (bits) a GUEST can be by an evening: a ROW of pairs (0 to 8: a TUNE, "
+        + "its GRIEF behind it), one behind the other, from its GRIEF now on, nobody OUT.")
     static void promise31_whichKindsByAnEvening() {
         PartyWill x = Checks.party(EACH_KIND);
         kindsAre(x, 0, 63);
@@ -164,8 +164,8 @@ final class SentencesOfEvenings {
         Checks.finds(x, "SIZE ahead of UNLIKE, too many", () -> x.came(1, 0), Checks.SIZE);
     }
 
-    @Sentence(of = 33, says = "What a TUNE does (bits 0 .. 9: that and 4), if a GUEST had a GRIEF (0 .. 20) ahead of it, "
-        + "and another one behind.")
+    @Sentence(of = 33, says = "What a TUNE does (bits 0 .. 9: that and 4), if a GUEST had a GRIEF (0 .. 20) ahead of "
+        + "it, and another one behind.")
     static void promise33_whatATuneDoes() {
         PartyWill x = Checks.party(EACH_KIND);
         Checks.due("a GUEST, 4 less", x.did(0, 0, 4, 0), 1);
@@ -256,8 +256,8 @@ final class SentencesOfEvenings {
         }
     }
 
-    @Sentence(of = 35, says = "What a GUEST gets of n (1 .. 999) parts, shared alike by all that are in, whole; what is "
-        + "left over goes to the first ones of these, 1 each (OUT: 0).")
+    @Sentence(of = 35, says = "What a GUEST gets of n (1 .. 999) parts, shared alike by all that are in, whole; what "
+        + "is left over goes to the first ones of these, 1 each (OUT: 0).")
     static void promise35_partsSharedAlike_leftOverToTheFirst_out0() {
         getEach(Checks.party("c34444 g9"), 1, 1);
         getEach(Checks.party("c34444 g9"), 999, 999);
@@ -302,8 +302,8 @@ final class SentencesOfEvenings {
         Checks.due("stops() by " + signs, Checks.party(signs).stops(), want);
     }
 
-    @Sentence(of = 36, says = "The smallest set (bits) of GUESTS that are in, two at least, whose GRIEF together is less "
-        + "than the CLAUSE times one fewer than they are (they would rather stop together); of as small ones the "
+    @Sentence(of = 36, says = "The smallest set (bits) of GUESTS that are in, two at least, whose GRIEF together is "
+        + "less than the CLAUSE times one fewer than they are (they would rather stop together); of as small ones the "
         + "least number.")
     static void promise36_smallestSetThatWouldRatherStop() {
         stopSo("c14444 g0g0", 3);

@@ -19,8 +19,8 @@ final class SentencesOfProgrammes {
         Checks.due("lower() by stay(" + n + ")", x.lower(), 1);
     }
 
-    @Sentence(of = 25, says = "By how many PROGRAMMES of n TUNES all that are in stay, told by upper() (lower() is 1); "
-        + "TUNES that can be the first of these by asked() (bits): 1.")
+    @Sentence(of = 25, says = "By how many PROGRAMMES of n TUNES all that are in stay, told by upper() (lower() is "
+        + "1); TUNES that can be the first of these by asked() (bits): 1.")
     static void promise25_howManyProgrammes_firstTunes() {
         PartyWill x = Checks.party(NARROW);
         x.odds(2);
@@ -113,8 +113,8 @@ final class SentencesOfProgrammes {
         Checks.refused(x, "first(1, least)", () -> x.first(1, LEAST), PartyWill.BAD);
     }
 
-    @Sentence(of = 27, says = "The fewest that are OUT by a PROGRAMME of n TUNES (any TUNES); the first such comes to a "
-        + "ROW (anew).")
+    @Sentence(of = 27, says = "The fewest that are OUT by a PROGRAMME of n TUNES (any TUNES); the first such comes to "
+        + "a ROW (anew).")
     static void promise27_fewestOut_firstSuchComesToARowAnew() {
         PartyWill x = Checks.party(NARROW);
         Checks.due("fewest(0, 0)", x.fewest(0, 0), 0);
@@ -160,8 +160,8 @@ final class SentencesOfProgrammes {
         Checks.refused(x, "fewest(1, least)", () -> x.fewest(1, LEAST), PartyWill.BAD);
     }
 
-    @Sentence(of = 28, says = "The fewest TUNES of a PROGRAMME (6 at most) behind which all that are in have a GRIEF of "
-        + "0, and none is OUT by it.")
+    @Sentence(of = 28, says = "The fewest TUNES of a PROGRAMME (6 at most) behind which all that are in have a GRIEF "
+        + "of 0, and none is OUT by it.")
     static void promise28_fewestTunesToGriefOf0() {
         Checks.due("all gay", Checks.party("c19999 g0y0 x10x01").gay(), 0);
         Checks.due("1", Checks.party("c94434 g1").gay(), 1);
@@ -197,8 +197,8 @@ final class SentencesOfProgrammes {
         Checks.due("ices(0) by " + signs + " " + java.util.Arrays.toString(programme), x.ices(0), want);
     }
 
-    @Sentence(of = 29, says = "The fewest ICES, all taken at once now (nobody is looked at ahead of the first TUNE), by "
-        + "which nobody is OUT by a PROGRAMME; of all GUESTS together.")
+    @Sentence(of = 29, says = "The fewest ICES, all taken at once now (nobody is looked at ahead of the first TUNE), "
+        + "by which nobody is OUT by a PROGRAMME; of all GUESTS together.")
     static void promise29_fewestIcesAtOnce_ofAllTogether() {
         icesAre("c14444 g9g9 x01x10", 0);
         icesAre("c14444 g9g9g9g9g9g9 x01x12x23x34x45x50", 18, 0);
@@ -213,6 +213,7 @@ final class SentencesOfProgrammes {
         Checks.row(x, 0, 0);
         Checks.unchanging(x, "ices(0)", () -> x.ices(0), 2);
         x.tune(0);
+        x.does(0, 5);
         Checks.due("ices(0), it is OUT", x.ices(0), 0);
     }
 
@@ -266,8 +267,8 @@ final class SentencesOfProgrammes {
     }
 
     @Sentence(of = 30, says = "By turns the band plays a TUNE, an aunt says her name to one that is in (to nobody, if "
-        + "none is), n (0 .. 3) times each, the band begins: how many are OUT by all that, the band wanting few, "
-        + "the aunt many.")
+        + "none is), n (0 .. 3) times each, the band begins: how many are OUT by all that, the band wanting few, the "
+        + "aunt many.")
     static void promise30_bandAndAuntByTurns() {
         PartyWill sad = Checks.party("c19999 g9g9 x10x01");
         Checks.due("aunt(0)", sad.aunt(0), 0);
@@ -278,6 +279,9 @@ final class SentencesOfProgrammes {
         Checks.due("aunt(2), above it", x.aunt(2), 1);
         Checks.unchanging(x, "aunt(3), nobody sees the other one", () -> x.aunt(3), 1);
         Checks.due("the band cheers ahead", Checks.party("c54442 g5g0 x10x01").aunt(1), 0);
+        Checks.due("by silence", Checks.party("c52444 g5g0 x10x01").aunt(1), 0);
+        Checks.due("by a polka", Checks.party("c54244 g5g0 x10x01").aunt(1), 0);
+        Checks.due("by a waltz", Checks.party("c54424 g5g0 x10x01").aunt(1), 0);
         Checks.due("the band can't", Checks.party("c54444 g5g0 x10x01").aunt(1), 1);
         PartyWill out = allOut();
         Checks.due("aunt(0), all OUT", out.aunt(0), 0);

@@ -177,8 +177,8 @@ final class SentencesOfRows {
         Checks.due("count(7)", x.count(7), 1);
     }
 
-    @Sentence(of = 6, says = "n places of a ROW, from one on, come to those of another one (perhaps itself) "
-        + "from one on, as if taken ahead: 1.")
+    @Sentence(of = 6, says = "n places of a ROW, from one on, come to those of another one (perhaps itself) from one "
+        + "on, as if taken ahead: 1.")
     static void promise06_placesComeAsIfTakenAhead() {
         PartyWill x = new PartyWill();
         Checks.row(x, 0, 1, 2, 3, 4, 5);
@@ -206,8 +206,8 @@ final class SentencesOfRows {
         Checks.due("digest() behind none", x.digest(), before);
     }
 
-    @Sentence(of = 6, says = "BAD; SIZE: n below 0; NOTHING: either; BEYOND: not so many there "
-        + "(with n 0, too, if i or j is below 0 or above the size).")
+    @Sentence(of = 6, says = "BAD; SIZE: n below 0; NOTHING: either; BEYOND: not so many there (with n 0, too, if i "
+        + "or j is below 0 or above the size).")
     static void promise06_bad_sizeBelow0_nothingEither_beyondNotSoMany() {
         PartyWill x = new PartyWill();
         Checks.row(x, 0, 1, 2, 3, 4, 5);

@@ -16,9 +16,9 @@ final class SentencesOfTerms {
         Checks.due("the 512th call", x.count(7), 1);
     }
 
-    @Sentence(of = TERMS, says = "Refused is, the first of these that fits, in this order: BAD -1 (a number that is none, "
-        + "or not as told), FULL -2, STATE -4 (not now), SPENT -6 (more than told), FINDING -3 (finding() tells which), "
-        + "unless a call says so otherwise.")
+    @Sentence(of = TERMS, says = "Refused is, the first of these that fits, in this order: BAD -1 (a number that is "
+        + "none, or not as told), FULL -2, STATE -4 (not now), SPENT -6 (more than told), FINDING -3 (finding() tells "
+        + "which), unless a call says so otherwise.")
     static void terms_refusedInThisOrder() {
         PartyWill none = new PartyWill();
         Checks.due("BAD", PartyWill.BAD, -1);
@@ -77,9 +77,9 @@ final class SentencesOfTerms {
         Checks.refused(x, "lots(1, 1), full", () -> x.lots(1, 1), PartyWill.FULL);
     }
 
-    @Sentence(of = TERMS, says = "FINDINGS: 1 NOTHING (a ROW, a TEXT, a kept PARTY that is missing), 2 BEYOND (a place of a "
-        + "ROW, a TEXT that there is not), 3 UNLIKE (a GUEST of another KIND; a number that is none), 4 NOUGHT (shared "
-        + "among none), 5 SIZE (fewer than none; too many, not as many as due).")
+    @Sentence(of = TERMS, says = "FINDINGS: 1 NOTHING (a ROW, a TEXT, a kept PARTY that is missing), 2 BEYOND (a "
+        + "place of a ROW, a TEXT that there is not), 3 UNLIKE (a GUEST of another KIND; a number that is none), 4 "
+        + "NOUGHT (shared among none), 5 SIZE (fewer than none; too many, not as many as due).")
     static void terms_findings() {
         PartyWill x = Checks.party("c94444 g0");
         Checks.finds(x, "a missing ROW", () -> x.tear(0), 1);
@@ -99,8 +99,8 @@ final class SentencesOfTerms {
         Checks.finds(x, "too many TUNES", () -> x.falls(0), 5);
     }
 
-    @Sentence(of = TERMS, says = "Chances, parts are told by upper(), lower(), in lowest terms, the lower number above 0 "
-        + "(0 by 1).")
+    @Sentence(of = TERMS, says = "Chances, parts are told by upper(), lower(), in lowest terms, the lower number "
+        + "above 0 (0 by 1).")
     static void terms_lowestTerms_0By1() {
         PartyWill x = Checks.party("c34455 g3g0 x10");
         Checks.share(x, "odds(0)", x.odds(0), 1, 1);
@@ -122,8 +122,8 @@ final class SentencesOfTerms {
         Checks.due("kinds(0, 0), all KINDS", x.kinds(0, 0), 63);
     }
 
-    @Sentence(of = TERMS, says = "ROWS 0 .. 5 are rows of 0 to 40 ints, TEXTS 0 .. 3 rows of 0 to 80 bytes, or missing (at "
-        + "first).")
+    @Sentence(of = TERMS, says = "ROWS 0 .. 5 are rows of 0 to 40 ints, TEXTS 0 .. 3 rows of 0 to 80 bytes, or "
+        + "missing (at first).")
     static void terms_rows0To5_texts0To3() {
         PartyWill x = new PartyWill();
         int[] rows = {-1, 0, 5, 6};
@@ -152,8 +152,8 @@ final class SentencesOfTerms {
         Checks.due("fault of '" + signs + "'", x.fault(0), want);
     }
 
-    @Sentence(of = TERMS, says = "A PARTY (without GUESTS at first) is a TEXT: blanks (32) ahead, between, behind as many as "
-        + "wanted, none within items (an item: a letter and all its figures).")
+    @Sentence(of = TERMS, says = "A PARTY (without GUESTS at first) is a TEXT: blanks (32) ahead, between, behind as "
+        + "many as wanted, none within items (an item: a letter and all its figures).")
     static void terms_blanksAheadBetweenBehind_noneWithinItems() {
         Checks.due("GUESTS at first", new PartyWill().count(0), 0);
         faultIs("c54444g1g2x01", PartyWill.NONE);
@@ -171,8 +171,8 @@ final class SentencesOfTerms {
         faultIs("\nc54444g1", 0);
     }
 
-    @Sentence(of = TERMS, says = "First c (99), the CLAUSE (1 .. 9), and what each TUNE 0 to 3 does, 4 more (0 .. 9 each: so "
-        + "-4 .. 5; one figure each).")
+    @Sentence(of = TERMS, says = "First c (99), the CLAUSE (1 .. 9), and what each TUNE 0 to 3 does, 4 more (0 .. 9 "
+        + "each: so -4 .. 5; one figure each).")
     static void terms_clause1To9_tunesMinus4To5() {
         faultIs("c10000g1", PartyWill.NONE);
         faultIs("c99999g1", PartyWill.NONE);
@@ -197,9 +197,9 @@ final class SentencesOfTerms {
         Checks.due("an air, 5 less 4", x.does(3, 0), 1);
     }
 
-    @Sentence(of = TERMS, says = "Then GUESTS (1 to 6; 0, 1, .. as they come): a letter, the GRIEF (0 .. 9, one figure); then "
-        + "SIGHTS, any of them: x (120), two GUESTS (one figure each, unlike): the first one sees the second one (told "
-        + "once at most).")
+    @Sentence(of = TERMS, says = "Then GUESTS (1 to 6; 0, 1, .. as they come): a letter, the GRIEF (0 .. 9, one "
+        + "figure); then SIGHTS, any of them: x (120), two GUESTS (one figure each, unlike): the first one sees the "
+        + "second one (told once at most).")
     static void terms_guests1To6_sightsAnyOfThem() {
         PartyWill x = Checks.party("c54444g0y9x01x10");
         Checks.told(x, "guest(0, 1)", x.guest(0, 1), 0);
@@ -220,16 +220,20 @@ final class SentencesOfTerms {
         faultIs("c54444g10", 8);
     }
 
-    @Sentence(of = TERMS, says = "A FAULT is the first place at which it can't go on so (a letter, a figure that is none "
-        + "such, a GUEST that there is not, the same twice, a SIGHT told already, a seventh GUEST, a GUEST behind a "
-        + "SIGHT, a SIGHT ahead of all GUESTS: its place; the TEXT's size, if its end comes too early, or there are "
-        + "blanks alone).")
+    @Sentence(of = TERMS, says = "A FAULT is the first place at which it can't go on so (a letter, a figure that is "
+        + "none such, a GUEST that there is not, the same twice, a SIGHT told already, a seventh GUEST, a GUEST "
+        + "behind a SIGHT, a SIGHT ahead of all GUESTS: its place; the TEXT's size, if its end comes too early, or "
+        + "there are blanks alone).")
     static void terms_faultIsTheFirstPlace() {
         faultIs("c54444z1", 6);
         faultIs("c54444gg", 7);
         faultIs("c54444g1x1", 9);
         faultIs("c54444g1g1x02", 12);
         faultIs("c54444g1g1x20", 11);
+        faultIs("c54444g1g1x/0", 11);
+        faultIs("c54444g1g1x:0", 11);
+        faultIs("c54444g1g1x0/", 12);
+        faultIs("c54444g1g1x0:", 12);
         faultIs("c54444g1g1x00", 12);
         faultIs("c54444g1g1x11", 12);
         faultIs("c54444g1g1x01x01", 15);
@@ -253,8 +257,8 @@ final class SentencesOfTerms {
         faultIs(" ".repeat(80), 80);
     }
 
-    @Sentence(of = TERMS, says = "KINDS of GUESTS and letters: 0 GUEST (g, 103), 1 DANCER (d, 100; a GUEST), 2 STONY (s, 115; "
-        + "a GUEST), 3 MOURNER (m, 109; a GUEST), 4 UNCLE (u, 117; a DANCER), 5 SPY (y, 121; a STONY one).")
+    @Sentence(of = TERMS, says = "KINDS of GUESTS and letters: 0 GUEST (g, 103), 1 DANCER (d, 100; a GUEST), 2 STONY "
+        + "(s, 115; a GUEST), 3 MOURNER (m, 109; a GUEST), 4 UNCLE (u, 117; a DANCER), 5 SPY (y, 121; a STONY one).")
     static void terms_kindsAndLetters() {
         String letters = "gdsmuy";
         for (int sign = 0; sign < 256; sign++) {
@@ -299,8 +303,9 @@ final class SentencesOfTerms {
         Checks.griefs(x, "behind tune " + tune + " by " + effect, griefs);
     }
 
-    @Sentence(of = TERMS, says = "By a TUNE it is more by what that does; of a DANCER (UNCLE, too) 1 less by TUNES 1, 2; of a "
-        + "STONY one (SPY, too) 1 more at most; of a MOURNER, if it rises, twice that; of an UNCLE 0 then by TUNE 1.")
+    @Sentence(of = TERMS, says = "By a TUNE it is more by what that does; of a DANCER (UNCLE, too) 1 less by TUNES 1, "
+        + "2; of a STONY one (SPY, too) 1 more at most; of a MOURNER, if it rises, twice that; of an UNCLE 0 then by "
+        + "TUNE 1.")
     static void terms_griefByTunes() {
         tuneGives(0, 5, 10, 10, 6, 15, 10, 6);
         tuneGives(1, 5, 10, 9, 6, 15, 0, 6);
@@ -320,7 +325,8 @@ final class SentencesOfTerms {
         Checks.griefs(x, "a polka of 0", 9, 0);
     }
 
-    @Sentence(of = TERMS, says = "By her name, SAID to one, it is 2 more (of a STONY one 1, of a MOURNER 4); by an ICE 3 less.")
+    @Sentence(of = TERMS, says = "By her name, SAID to one, it is 2 more (of a STONY one 1, of a MOURNER 4); by an "
+        + "ICE 3 less.")
     static void terms_griefByNamesAndIces() {
         PartyWill x = Checks.party("c94444 g4d4s4m4u4y4");
         int[] named = {6, 6, 5, 8, 6, 5};
@@ -337,8 +343,8 @@ final class SentencesOfTerms {
         Checks.griefs(x, "0 at least", 0, 0, 0, 2, 0, 0);
     }
 
-    @Sentence(of = TERMS, says = "Behind a TUNE, her name, an ICE, each that is in, whose GRIEF is above the CLAUSE, and whom "
-        + "somebody sees who is in (as they were ahead of that), is OUT; a SPY never.")
+    @Sentence(of = TERMS, says = "Behind a TUNE, her name, an ICE, each that is in, whose GRIEF is above the CLAUSE, "
+        + "and whom somebody sees who is in (as they were ahead of that), is OUT; a SPY never.")
     static void terms_whoIsOut() {
         Checks.due("at the CLAUSE", Checks.party("c34444 g3g0 x10").tune(0), 0);
         Checks.due("above it", Checks.party("c34444 g4g0 x10").tune(0), 1);
@@ -390,8 +396,8 @@ final class SentencesOfTerms {
         Checks.due("undo(0)", x.undo(0), 39);
     }
 
-    @Sentence(of = TERMS, says = "A PROGRAMME is a row of TUNES, of 0 to 6 (told in a ROW); such go by their first TUNES, then "
-        + "second ones, ..")
+    @Sentence(of = TERMS, says = "A PROGRAMME is a row of TUNES, of 0 to 6 (told in a ROW); such go by their first "
+        + "TUNES, then second ones, ..")
     static void terms_programmesOf0To6_byTheirFirstTunes() {
         PartyWill x = Checks.party("c34444 g1g0 x10");
         for (int n = 0; n <= 7; n++) {
@@ -407,8 +413,8 @@ final class SentencesOfTerms {
         Checks.rowIs(x, 0, 1, 1, 3, 0);
     }
 
-    @Sentence(of = TERMS, says = "LOTS: a number comes from the one ahead by 48271 times it modulo 2147483647, the first from "
-        + "a seed (1 .. 2147483646).")
+    @Sentence(of = TERMS, says = "LOTS: a number comes from the one ahead by 48271 times it modulo 2147483647, the "
+        + "first from a seed (1 .. 2147483646).")
     static void terms_lots_seeds1To2147483646() {
         PartyWill x = Checks.party("c94567 g0");
         int[] bad = {0, -1, Checks.MOST, Checks.LEAST};

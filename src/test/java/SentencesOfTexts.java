@@ -140,6 +140,13 @@ final class SentencesOfTexts {
         Checks.told(x, "guest(0, 4)", x.guest(0, 4), 0);
         Checks.due("guest(1, 0)", x.guest(1, 0), PartyWill.BAD);
         Checks.due("asked() stays by party()", x.asked(), 0);
+        PartyWill seen = Checks.party("c14444 g9g9 x10x01");
+        seen.party(0);
+        Checks.text(seen, 1, "c14444 g9g9");
+        Checks.due("party(1), without SIGHTS", seen.party(1), 2);
+        Checks.told(seen, "guest(0, 3)", seen.guest(0, 3), 0);
+        Checks.told(seen, "guest(0, 4)", seen.guest(0, 4), 0);
+        Checks.due("nobody sees them", seen.tune(0), 0);
     }
 
     @Sentence(of = 11, says = "BAD; NOTHING; STATE: a FAULT.")
@@ -215,9 +222,9 @@ final class SentencesOfTexts {
     }
 
     @Sentence(of = 13, says = "What a GUEST that IS of a KIND tells: a DANCER (UNCLE, too) how many TUNES make its "
-        + "GRIEF less now, a STONY one (SPY, too) the most by which a TUNE makes its GRIEF more now (0 at least), "
-        + "a MOURNER how often her name can be SAID to it, and its GRIEF is not above the CLAUSE (0 .. 9), an UNCLE "
-        + "how many others have more GRIEF, a SPY how many it sees whose GRIEF is above the CLAUSE less 3.")
+        + "GRIEF less now, a STONY one (SPY, too) the most by which a TUNE makes its GRIEF more now (0 at least), a "
+        + "MOURNER how often her name can be SAID to it, and its GRIEF is not above the CLAUSE (0 .. 9), an UNCLE how "
+        + "many others have more GRIEF, a SPY how many it sees whose GRIEF is above the CLAUSE less 3.")
     static void promise13_whatEachKindTells() {
         dancersAndUnclesByTunes();
         stonyOnesAndSpiesByTunes();
@@ -251,7 +258,10 @@ final class SentencesOfTexts {
     private static void stonyOnesAndSpiesByTunes() {
         marksAre("c90000 s0s9y0y9", 2, 0, 0, 0, 0);
         marksAre("c94444 s0s9y0y9", 2, 0, 0, 0, 0);
+        marksAre("c95000 s0s9y0y9", 2, 1, 1, 1, 1);
+        marksAre("c90500 s0s9y0y9", 2, 1, 1, 1, 1);
         marksAre("c90050 s0s9y0y9", 2, 1, 1, 1, 1);
+        marksAre("c90005 s0s9y0y9", 2, 1, 1, 1, 1);
         marksAre("c99999 s0s9y0y9", 2, 1, 1, 1, 1);
         PartyWill x = Checks.party("c99999 s9y9");
         for (int k = 0; k < 10; k++) {
@@ -279,6 +289,7 @@ final class SentencesOfTexts {
 
     private static void spiesByTheSeen() {
         int spy = 0;
+        Checks.due("the last one sees the first", Checks.party("c94444 g9g0y0 x20").mark(2, 5), 1);
         String[] parties = {"c94444 y0g6g7g9 x01x02", "c94444 y9g9", "c34444 y9g0g1 x01x02", "c14444 y0g0 x01",
             "c94444 y0g9d9s9m9u9 x01x02x03x04x05", "c94444 y9g9 x10"};
         int[] want = {1, 0, 1, 1, 5, 0};

@@ -5,8 +5,8 @@ final class SentencesTold {
     private SentencesTold() {
     }
 
-    @Sentence(of = 40, says = "What the latest lay(), at(), mean(), guest(), out(), falls(), stay() that was not refused "
-        + "(nor NONE, but as told) told; 0 before.")
+    @Sentence(of = 40, says = "What the latest lay(), at(), mean(), guest(), out(), falls(), stay() that was not "
+        + "refused (nor NONE, but as told) told; 0 before.")
     static void promise40_whatTheLatestTold_0Before() {
         PartyWill x = new PartyWill();
         Checks.due("asked() before", x.asked(), 0);
@@ -225,10 +225,10 @@ final class SentencesTold {
         Checks.refused(x, "findings(least)", () -> x.findings(LEAST), PartyWill.BAD);
     }
 
-    @Sentence(of = 46, says = "h = 17; then h = 31 h + v for each v (of a call that tells by asked(): what it tells, not "
-        + "the 1 that it answers; asked() stays): count() 0 to 9; what each TUNE does; of each GUEST guest() 0 to 4; of "
-        + "each kept PARTY how many DEEDS (-1: missing); of each ROW its size (-1: missing) and places, of each TEXT "
-        + "likewise.")
+    @Sentence(of = 46, says = "h = 17; then h = 31 h + v for each v (of a call that tells by asked(): what it tells, "
+        + "not the 1 that it answers; asked() stays): count() 0 to 9; what each TUNE does; of each GUEST guest() 0 to "
+        + "4; of each kept PARTY how many DEEDS (-1: missing); of each ROW its size (-1: missing) and places, of each "
+        + "TEXT likewise.")
     static void promise46_digest() {
         int[] ofNew = new int[27];
         System.arraycopy(Checks.times(13, -1), 0, ofNew, 14, 13);
