@@ -67,8 +67,9 @@ final class SentencesOfEvenings {
             Checks.due("kinds(0, 0) of " + n + " places", x.kinds(0, 0), PartyWill.FINDING);
             Checks.due("finding()", x.finding(), Checks.SIZE);
         }
+        Checks.row(x, 0, Checks.times(18, 99));
         x.row(0, 16);
-        Checks.due("kinds(0, 0) of 16 places", x.kinds(0, 0), 63);
+        Checks.due("kinds(0, 0) of 16 places, none behind them", x.kinds(0, 0), 63);
         int[][] unlike = {{14, -1}, {14, 4}, {14, MOST}, {15, -1}, {15, 21}, {15, LEAST}, {0, 4}, {1, 21}};
         for (int[] place : unlike) {
             x.row(0, 16);
@@ -140,8 +141,9 @@ final class SentencesOfEvenings {
             x.row(0, n);
             Checks.finds(x, "came(0, 0) of " + n + " places", () -> x.came(0, 0), Checks.SIZE);
         }
+        Checks.row(x, 0, Checks.times(18, 99));
         x.row(0, 16);
-        Checks.due("came(0, 0) of 16 places", x.came(0, 0), 1);
+        Checks.due("came(0, 0) of 16 places, none behind them", x.came(0, 0), 1);
         int[][] unlike = {{14, -1}, {14, 4}, {15, -1}, {15, 21}};
         for (int[] place : unlike) {
             x.row(0, 16);

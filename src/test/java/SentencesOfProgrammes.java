@@ -80,6 +80,9 @@ final class SentencesOfProgrammes {
         Checks.due("first(3, 1), by the first TUNES first", last.first(3, 1), 3);
         Checks.rowIs(last, 1, 3, 0, 3);
         Checks.due("first(6, 2), all OUT", allOut().first(6, 2), 6);
+        PartyWill two = Checks.party("c39664 g1g0 x10");
+        Checks.due("first(2, 3)", two.first(2, 3), 2);
+        Checks.rowIs(two, 3, 1, 3);
         Checks.due("no DEED", x.count(2), 0);
     }
 
@@ -138,6 +141,9 @@ final class SentencesOfProgrammes {
         PartyWill some = Checks.party("c59990 g9g5s5 x20x21x12");
         Checks.due("fewest(1, 0): 9 less 4 is no more", some.fewest(1, 0), 0);
         Checks.rowIs(some, 0, 3);
+        PartyWill narrow = Checks.party("c39664 g1g0 x10");
+        Checks.due("fewest(2, 3)", narrow.fewest(2, 3), 0);
+        Checks.rowIs(narrow, 3, 1, 3);
         PartyWill out = allOut();
         Checks.due("fewest(6, 0), all OUT already", out.fewest(6, 0), 0);
         Checks.rowIs(out, 0, 0, 0, 0, 0, 0, 0);
@@ -286,6 +292,12 @@ final class SentencesOfProgrammes {
         PartyWill out = allOut();
         Checks.due("aunt(0), all OUT", out.aunt(0), 0);
         Checks.due("aunt(3), all OUT", out.aunt(3), 0);
+        PartyWill saddest = Checks.party("c94449 y9y9y9y9y9g9");
+        Checks.deeds(saddest, 1);
+        for (int k = 0; k < 3; k++) {
+            saddest.tune(3);
+        }
+        Checks.due("GRIEF of 20 that nobody sees", saddest.aunt(3), 0);
         Checks.due("none OUT by a SPY", Checks.party("c14444 y9y9 x10x01").aunt(3), 0);
         Checks.due("aunt(3) by six", Checks.party("c24444 g2g2g2g2g2g2 x01x12x23x34x45x50").aunt(3), 3);
     }
