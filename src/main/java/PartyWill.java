@@ -12,6 +12,7 @@ public final class PartyWill {
     private static final int TUNES = 4, SILENCE = 0, POLKA = 1, WALTZ = 2, DOES_LEAST = -4, DOES_MOST = 5;
     private static final int KINDS = 6, GUEST = 0, DANCER = 1, STONY = 2, MOURNER = 3, UNCLE = 4, SPY = 5;
     private static final int GUESTS_MOST = 6, GRIEF_MOST = 20, ICE = 3, ICES_MOST = 7;
+    private static final int NAME = 2, NAME_TO_STONY = 1, NAME_TO_MOURNER = 4;
     private static final int DEEDS_MOST = 40, PROGRAMME_MOST = 6, TURNS_MOST = 3, PAIRS_MOST = 8;
     private static final int PARTS_MOST = 999, LOTS_MOST = 20;
     private static final long LOT_FACTOR = 48271, LOT_MODULUS = 2147483647;
@@ -210,7 +211,7 @@ public final class PartyWill {
         switch (kind) {
             case DANCER: return party.tunesThatCheer(course.now, i);
             case STONY: return party.steepestRise(course.now, i);
-            case MOURNER: return party.namesBorne(course.now, i);
+            case MOURNER: return party.namesAMournerBears(course.now, i);
             case UNCLE: return party.sadderThan(course.now, i);
             default: return party.suspects(course.now, i);
         }
@@ -954,9 +955,9 @@ public final class PartyWill {
 
         private static int riseByName(int kind) {
             switch (kind) {
-                case STONY: case SPY: return 1;
-                case MOURNER: return 4;
-                default: return 2;
+                case STONY: case SPY: return NAME_TO_STONY;
+                case MOURNER: return NAME_TO_MOURNER;
+                default: return NAME;
             }
         }
 
@@ -1057,8 +1058,8 @@ public final class PartyWill {
             return most;
         }
 
-        private int namesBorne(long hall, int guest) {
-            return Math.max(0, clause - Hall.griefOf(hall, guest)) / riseByName(kinds[guest]);
+        private int namesAMournerBears(long hall, int guest) {
+            return Math.max(0, clause - Hall.griefOf(hall, guest)) / NAME_TO_MOURNER;
         }
 
         private int sadderThan(long hall, int guest) {
