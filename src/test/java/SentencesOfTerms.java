@@ -146,6 +146,26 @@ final class SentencesOfTerms {
         }
     }
 
+    @Sentence(of = TERMS, says = "TUNES are 0 to 3: 0 silence, 1 a polka, 2 a waltz, 3 an air.")
+    static void terms_tunesAre0To3() {
+        PartyWill x = Checks.party("c95555 g0d0u0");
+        x.row(0, 1);
+        int[] none = {-1, 4, Checks.MOST, Checks.LEAST};
+        for (int t : none) {
+            Checks.refused(x, "tune(" + t + ")", () -> x.tune(t), PartyWill.BAD);
+            Checks.refused(x, "out(" + t + ")", () -> x.out(t), PartyWill.BAD);
+            Checks.refused(x, "does(" + t + ", 0)", () -> x.does(t, 0), PartyWill.BAD);
+            Checks.refused(x, "did(0, " + t + ", 0, 0)", () -> x.did(0, t, 0, 0), PartyWill.BAD);
+            x.lay(0, 0, t);
+            Checks.finds(x, "falls by " + t, () -> x.falls(0), Checks.UNLIKE);
+        }
+        int[][] behind = {{1, 1, 1}, {2, 1, 0}, {3, 1, 0}, {4, 2, 1}};
+        for (int t = 0; t <= 3; t++) {
+            Checks.due("tune(" + t + ")", x.tune(t), 0);
+            Checks.griefs(x, "behind tune " + t, behind[t]);
+        }
+    }
+
     private static void faultIs(String signs, int want) {
         PartyWill x = new PartyWill();
         Checks.text(x, 0, signs);
@@ -376,6 +396,28 @@ final class SentencesOfTerms {
         x.tune(0);
         Checks.told(x, "guest(0, 2)", x.guest(0, 2), 1);
         Checks.griefs(x, "behind silence by -4", 0, 1, 0);
+    }
+
+    @Sentence(of = TERMS, says = "What is done: a TUNE is played (to all that are in), her name SAID to one, an ICE "
+        + "taken by one.")
+    static void terms_whatIsDone_toAllOrToOne() {
+        PartyWill x = Checks.party("c55444 g5g4g4 x10");
+        Checks.due("silence, 1 more", x.tune(0), 1);
+        Checks.griefs(x, "a TUNE to all that are in", 0, 5, 5);
+        Checks.due("her name", x.say(2), 7);
+        Checks.griefs(x, "her name to one", 0, 5, 7);
+        Checks.due("an ICE", x.ice(1), 2);
+        Checks.griefs(x, "an ICE by one", 0, 2, 7);
+        Checks.due("DEEDS", x.count(2), 3);
+        x.out(0);
+        x.safe();
+        x.stay(2);
+        x.aunt(1);
+        x.row(0, 1);
+        x.ices(0);
+        x.falls(0);
+        Checks.due("aside nothing is done", x.count(2), 3);
+        Checks.griefs(x, "aside", 0, 2, 7);
     }
 
     @Sentence(of = TERMS, says = "These are DEEDS 0, 1, .. (40 at most).")

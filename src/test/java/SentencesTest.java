@@ -11,7 +11,7 @@ import java.util.TreeMap;
 
 /**
  * Runs the tests of the document's sentences, and holds them against the document: what a test says to be its
- * sentence must stand there, and each sentence of each promise must have its test.
+ * sentence must stand there, and each sentence of each promise and of the terms must have its test.
  */
 public final class SentencesTest {
     private static final int PROMISES = 46;
@@ -22,6 +22,7 @@ public final class SentencesTest {
 
     private static final Map<Integer, String> DOCUMENT = new TreeMap<>();
     private static final Set<String> TESTED = new HashSet<>();
+    private static String terms = "";
 
     public static void main(String[] args) throws Exception {
         readDocument();
@@ -33,6 +34,9 @@ public final class SentencesTest {
             for (String sentence : sentencesOf(DOCUMENT.getOrDefault(promise, ""))) {
                 Checks.due("a test of promise " + promise + ": " + sentence, isTested(promise, sentence), 1);
             }
+        }
+        for (String sentence : sentencesOfTerms()) {
+            Checks.due("a test of the terms: " + sentence, isTested(Sentence.TERMS, sentence), 1);
         }
         Checks.end();
     }
@@ -47,6 +51,7 @@ public final class SentencesTest {
                 DOCUMENT.put(promise, body.substring(body.indexOf("`: ") + 3).strip());
             } else if (head.equals("Terms") || head.equals("What it is")) {
                 DOCUMENT.merge(Sentence.TERMS, body, String::concat);
+                terms = head.equals("Terms") ? body : terms;
             }
         }
         Checks.due("promises of the document, and the terms", DOCUMENT.size(), PROMISES + 1);
@@ -58,6 +63,19 @@ public final class SentencesTest {
         for (String sentence : promise.split("(?<=[^. ]\\.)\\s+|(?<=[^. ]\\.\\))\\s+")) {
             sentences.add(sentence);
         }
+        return sentences;
+    }
+
+    /** The terms' paragraphs without their marks; what only tells where the calls' headings stand promises nothing. */
+    private static List<String> sentencesOfTerms() {
+        List<String> sentences = new ArrayList<>();
+        for (String paragraph : terms.split("\n\\s*\n|```(text)?\n|\n(?=  )")) {
+            String words = paragraph.strip().replaceFirst("^======== (ANSWERS\\.|[1-3]) ", "");
+            if (!words.isEmpty() && !words.startsWith("Ahead of the calls")) {
+                sentences.addAll(sentencesOf(words));
+            }
+        }
+        Checks.due("sentences of the terms, some at least", sentences.size() > 15 ? 1 : 0, 1);
         return sentences;
     }
 
